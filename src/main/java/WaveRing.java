@@ -8,6 +8,8 @@ public final class WaveRing {
     private static final int SLACKS_MOST = 6;
     private static final int UNITS_MOST = 30;
     private static final int NESTED_MOST = 7;
+    // Each unit, what joins it to the next, and each not, which takes four bytes: its own and one that parts it.
+    private static final int CODE_MOST = 2 * UNITS_MOST + TAPE_MOST / 4;
     private static final int BOXES = 3;
     private static final int FILMS_MOST = 60;
     private static final int MOMENTS = 40;
@@ -72,17 +74,17 @@ public final class WaveRing {
     private static final int TIMES = 20008;
 
     private final Tape tape = new Tape();
-    private final Reader reader = new Reader(tape);
+    private Ring told = new Ring();
+    private Ring spare = new Ring();
+    private final Reader reader = new Reader(tape, spare);
     private final Crowd crowd = new Crowd();
     private final Crowd dream = new Crowd();
     private final Crowd[] boxes = new Crowd[BOXES];
     private final boolean[] kept = new boolean[BOXES];
     private final Films films = new Films();
-    private final Plain plain = new Plain();
-    private final Plain otherPlain = new Plain();
+    private final Plain plain = new Plain(told);
+    private final Plain otherPlain = new Plain(told);
     private final long[] chances = new long[ODDS_MOST + 1];
-    private Ring told = new Ring();
-    private Ring spare = new Ring();
 
     public WaveRing() {
         for (int box = 0; box < boxes.length; box++) {
@@ -375,7 +377,7 @@ public final class WaveRing {
     }
 
     public int image(int box) {
-        if (box < 0 || box >= boxes.length || box >= kept.length) {
+        if (!isBox(box)) {
             return NONE;
         }
         boxes[box].copy(crowd);
@@ -384,7 +386,7 @@ public final class WaveRing {
     }
 
     public int back(int box) {
-        if (box < 0 || box >= boxes.length || box >= kept.length || !kept[box]) {
+        if (!isBox(box) || !kept[box]) {
             return NONE;
         }
         crowd.copy(boxes[box]);
@@ -420,6 +422,10 @@ public final class WaveRing {
             default:
                 return NONE;
         }
+    }
+
+    private boolean isBox(int box) {
+        return box >= 0 && box < BOXES && boxes[box] != null;
     }
 
     private boolean canTry(int n) {
@@ -510,8 +516,7 @@ public final class WaveRing {
 
     /** A law's e, its units and signs in the order in which they are worked out. */
     private static final class Law {
-        // Each part comes from bytes of its own, so there are never more than bytes.
-        private final int[] code = new int[TAPE_MOST];
+        private final int[] code = new int[CODE_MOST];
         private final int[] stack = new int[UNITS_MOST];
         private int length;
         private int units;
@@ -537,49 +542,39 @@ public final class WaveRing {
             int high = 0;
             for (int i = 0; i < length && i < code.length; i++) {
                 int part = code[i];
-                if (part >= FIRST_JOIN) {
-                    high = join(part, high);
-                } else if (high >= 0 && high < stack.length) {
-                    stack[high] = part < FIRST_LOOK ? part : look(looks, part - FIRST_LOOK);
-                    high++;
+                if (part < FIRST_JOIN) {
+                    if (high < stack.length) {
+                        stack[high] = part < FIRST_LOOK ? part : lookedUp(looks, part - FIRST_LOOK);
+                        high++;
+                    }
+                } else if (part == NOT) {
+                    if (high >= 1) {
+                        stack[high - 1] = stack[high - 1] == 0 ? 1 : 0;
+                    }
+                } else if (high >= 2) {
+                    stack[high - 2] = joined(part, stack[high - 2], stack[high - 1]);
+                    high--;
                 }
             }
             return stack[0];
         }
 
-        private static int look(int[] looks, int which) {
+        private static int lookedUp(int[] looks, int which) {
             return which >= 0 && which < looks.length ? looks[which] : 0;
-        }
-
-        /** Joins the upmost of the first high values; answers how many are left. */
-        private int join(int part, int high) {
-            if (high < 1 || high > stack.length) {
-                return high;
-            }
-            int second = stack[high - 1];
-            if (part == NOT) {
-                stack[high - 1] = oneIf(second == 0);
-                return high;
-            }
-            if (high < 2) {
-                return high;
-            }
-            stack[high - 2] = joined(part, stack[high - 2], second);
-            return high - 1;
         }
 
         private static int joined(int part, int first, int second) {
             switch (part) {
                 case AND:
-                    return oneIf(first != 0 && second != 0);
+                    return first != 0 && second != 0 ? 1 : 0;
                 case OR:
-                    return oneIf(first != 0 || second != 0);
+                    return first != 0 || second != 0 ? 1 : 0;
                 case LESS:
-                    return oneIf(first < second);
+                    return first < second ? 1 : 0;
                 case MORE:
-                    return oneIf(first > second);
+                    return first > second ? 1 : 0;
                 case EQUAL:
-                    return oneIf(first == second);
+                    return first == second ? 1 : 0;
                 case PLUS:
                     return first + second;
                 case MINUS:
@@ -644,7 +639,8 @@ public final class WaveRing {
             return (those << by | those >>> (seats - by)) & everySeat();
         }
 
-        int sight(int wished) {
+        /** How many seats one sees on each side who would see so many. */
+        int sightOf(int wished) {
             return Math.min(wished, (seats - 1) / 2);
         }
 
@@ -699,9 +695,9 @@ public final class WaveRing {
         private int fault;
         private int place;
 
-        Reader(Tape tape) {
+        Reader(Tape tape, Ring into) {
             this.tape = tape;
-            this.into = new Ring();
+            this.into = into;
             this.place = NONE;
         }
 
@@ -1123,7 +1119,7 @@ public final class WaveRing {
             return those;
         }
 
-        /** A try by those of who sit; answers how many that are. */
+        /** Those of who that sit are up at once; answers how many that are. */
         int raise(Ring ring, long who) {
             int raised = 0;
             for (int seat = 0; seat < SEATS_MOST; seat++) {
@@ -1159,7 +1155,7 @@ public final class WaveRing {
         }
 
         private void lookAround(Ring ring, long firsts, int seat) {
-            int sight = ring.sight(ring.sees);
+            int sight = ring.sightOf(ring.sees);
             // Seen from its own place each seat is number 0, and the one on its left the last.
             long seen = ring.turned(firsts, ring.seats - seat);
             looks[LEFT] = Long.bitCount(seen >>> (ring.seats - sight));
@@ -1214,8 +1210,14 @@ public final class WaveRing {
             for (int seat = 0; seat < SEATS_MOST; seat++) {
                 if (holds(rising, seat)) {
                     lookAround(ring, firsts, seat);
-                    ways[wayOf(looks[LEFT], looks[RIGHT])]++;
+                    countWay(wayOf(looks[LEFT], looks[RIGHT]));
                 }
+            }
+        }
+
+        private void countWay(int way) {
+            if (way >= 0 && way < WAYS) {
+                ways[way]++;
             }
         }
 
@@ -1321,7 +1323,7 @@ public final class WaveRing {
             if (first < 0 || first >= MOMENTS) {
                 return true;
             }
-            if ((shown[first] & plain.gaps) != 0) {
+            if ((shown[first] & plain.ring.gaps) != 0) {
                 return false;
             }
             plain.begin(shown[first]);
@@ -1349,8 +1351,7 @@ public final class WaveRing {
 
     /** A plain law at work on a ring, for all seats at once by bits. */
     private static final class Plain {
-        private Ring ring = new Ring();
-        private long gaps;
+        private Ring ring;
         private boolean looksLeft;
         private boolean looksRight;
         private int sight;
@@ -1364,13 +1365,16 @@ public final class WaveRing {
         private long rest2;
         private long rest3;
 
+        Plain(Ring ring) {
+            this.ring = ring;
+        }
+
         void take(int law, Ring where) {
             ring = where;
-            gaps = where.gaps;
             rest = law % 4;
             up = law / 4 % 3 + 1;
             need = law / 12 % 3 + 1;
-            sight = where.sight(law / 36 % 3 + 1);
+            sight = where.sightOf(law / 36 % 3 + 1);
             int side = law / 108;
             looksLeft = side != 1;
             looksRight = side != 0;
@@ -1391,7 +1395,7 @@ public final class WaveRing {
 
         void goOn() {
             long awake = allUp() | rest1 | rest2 | rest3;
-            long rising = thoseWhoSee() & ~(awake | gaps | ring.dear);
+            long rising = thoseWhoSee() & ~(awake | ring.gaps | ring.dear);
             long leaving = up == 1 ? up1 : up == 2 ? up2 : up3;
             rest3 = rest > 2 ? rest2 : 0;
             rest2 = rest > 1 ? rest1 : 0;
