@@ -24,6 +24,8 @@ public final class ComesTest {
         CHECK.due("till(39, 9)", x.till(39, 9), 359);
         CHECK.due("till(0, 9)", x.till(0, 9), 360);
         CHECK.due("till(1, 0)", x.till(1, 0), -1);
+        CHECK.due("till(5, 0)", x.till(5, 0), -1);
+        CHECK.due("till(64, 1)", x.till(64, 1), -1);
         CHECK.due("till(1, 10)", x.till(1, 10), -1);
         CHECK.due("till(1, -1)", x.till(1, -1), -1);
         CHECK.due("till(40, 1)", x.till(40, 1), -1);

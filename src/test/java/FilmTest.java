@@ -10,6 +10,7 @@ public final class FilmTest {
         gapsAndDear();
         sure();
         same();
+        sameByUpAndRest();
         CHECK.finish();
     }
 
@@ -41,6 +42,9 @@ public final class FilmTest {
         x = CHECK.made("seats 6;");
         CHECK.due("bit 5", x.film(0, 32), 0);
         CHECK.due("bit 6", x.film(0, 64), -1);
+        Check.tell(x, "seats 7;");
+        CHECK.due("untell of a film of the ring before", x.untell(0), false);
+        CHECK.due("bit 6 of seven", x.film(0, 64), 0);
     }
 
     private static void times() {
@@ -182,6 +186,16 @@ public final class FilmTest {
         x.film(7, 0b0000001L);
         CHECK.due("none fits", x.fits(0), 0);
         CHECK.due("sure of none", x.sure(0, 7, 0), -1);
+        // Two waves with one seat between them: who is hit again in the second tenth does not rest.
+        x = CHECK.made("seats 7;");
+        x.film(0, 0b0000101L);
+        x.film(1, 0b0001010L);
+        x.film(2, 0b0010100L);
+        CHECK.due("one law fits", x.fits(0), 1);
+        CHECK.due("it is the first", x.fit(0, 0), 0);
+        CHECK.due("sure by it alone", x.sure(5, 5, 0), 1);
+        CHECK.due("sure by it round", x.sure(0, 5, 0), 1);
+        CHECK.due("sure by it not", x.sure(6, 5, 0), 0);
     }
 
     private static void same() {
@@ -204,6 +218,32 @@ public final class FilmTest {
         CHECK.due("gaps alone", x.same(0, 323), 1);
         x = CHECK.made("seats 8; gap 0 to 5; dear 6 to 6;");
         CHECK.due("a dear one starts: left and right", x.same(law(0, 1, 1, 1, 0), law(1, 1, 1, 1, 0)), 0);
+        x = CHECK.made("seats 8; gap 4 to 7;");
+        CHECK.due("by the start of 0, 1, 2 alone", x.same(law(0, 3, 3, 1, 0), law(0, 1, 3, 1, 0)), 0);
+        x = CHECK.made("seats 8; gap 0 to 5; dear 6 to 6;");
         CHECK.due("to the left of it nobody", x.same(law(1, 1, 1, 1, 0), law(1, 1, 3, 1, 0)), 1);
+    }
+
+    /** On six seats a wave from n is back behind 7 - n tenths: who then still is up or rests ends it. */
+    private static void sameByUpAndRest() {
+        WaveRing x = CHECK.made("seats 6;");
+        for (int up = 1; up <= 3; up++) {
+            for (int a = 0; a <= 3; a++) {
+                for (int b = 0; b <= 3; b++) {
+                    boolean due = endsBy(up + a) == endsBy(up + b);
+                    CHECK.due("up " + up + ", rest " + a + " and " + b, x.same(law(0, 1, 1, up, a), law(0, 1, 1, up, b)), due ? 1 : 0);
+                }
+            }
+        }
+    }
+
+    /** From how many on, of 1 to 3, a wave ends by so many tenths up and at rest; 4: by none. */
+    private static int endsBy(int tenths) {
+        for (int n = 1; n <= 3; n++) {
+            if (tenths > 6 - n) {
+                return n;
+            }
+        }
+        return 4;
     }
 }

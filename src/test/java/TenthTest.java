@@ -129,6 +129,7 @@ public final class TenthTest {
             CHECK.due("without a law up 2, rest 4", x.seat(0, 0), state);
             x.run(1);
         }
+        CHECK.due("without a law nobody is shy", x.about(7), 1);
         x = CHECK.made("seats 7; few 0 to 0; dear 2 to 2; gap 4 to 4; law up 1 rest 0 sees 1 shy 0 when tenth=1;");
         CHECK.due("neither dear ones nor gaps", x.run(1), 5);
         CHECK.due("the dear one sits", x.seat(2, 0), 0);
@@ -246,6 +247,15 @@ public final class TenthTest {
         x.tryNow();
         x.run(1);
         CHECK.due("three draws: none for dear ones, gaps, and who does not sit", x.about(7), drawnTimes(3));
+        x = CHECK.made("seats 6; law up 1 rest 0 sees 1 shy 5 when 1;");
+        x.seed(4711);
+        x.run(1);
+        int w = 4711;
+        for (int seat = 0; seat < 6; seat++) {
+            w = w * 1103515245 + 12345;
+            CHECK.due("the draw for seat " + seat, x.seat(seat, 0), (w >>> 16) % 10 < 5 ? 0 : 1);
+        }
+        CHECK.due("six draws", x.about(7), w);
         x = CHECK.made("seats 6; law up 1 rest 0 sees 1 shy 0 when 1;");
         x.run(3);
         CHECK.due("nothing is drawn if shy is 0", x.about(7), 1);
@@ -365,6 +375,21 @@ public final class TenthTest {
         CHECK.due("image over it", x.image(1), 3);
         x.run(1);
         CHECK.due("the later image", x.back(1), 3);
+        waysAreKept("left>0", 0);
+        waysAreKept("right>0", 1);
+        waysAreKept("tenth<9", 2);
+    }
+
+    private static void waysAreKept(String e, int way) {
+        WaveRing x = CHECK.made("seats 9; few 0 to 0; law up 1 rest 0 sees 1 shy 0 when " + e + ";");
+        x.tryNow();
+        x.run(2);
+        int before = x.way(way);
+        x.image(0);
+        x.run(2);
+        CHECK.due("the way is gone more", x.way(way) > before, true);
+        x.back(0);
+        CHECK.due("the way is as kept", x.way(way), before);
     }
 
     /** One number of all that an image keeps. */

@@ -134,6 +134,15 @@ public final class TextTest {
         CHECK.faulty("dearones 1 to 2;", 2, 0);
         CHECK.faulty(" dearoness 1 to 2;", 1, 1);
         CHECK.faulty("Seats 12;", 1, 0);
+        CHECK.faulty("zz", 2, 0);
+        CHECK.faulty("aa", 2, 0);
+        CHECK.faulty("`", 1, 0);
+        CHECK.faulty("{", 1, 0);
+        CHECK.faulty("seats 9z", 1, 6);
+        CHECK.faulty("teats 9;", 2, 0);
+        CHECK.faulty("seatz 9;", 2, 0);
+        CHECK.faulty("seat 9;", 2, 0);
+        CHECK.faulty("seatss 9;", 2, 0);
         CHECK.faulty("seats\t12;", 1, 5);
         CHECK.faulty("seats 12\r;", 1, 8);
         CHECK.faulty("seats 12;\u0000", 1, 9);
