@@ -179,11 +179,11 @@ public final class WaveRing {
     }
 
     public int wide() {
-        return told.widest(crowd.allUp());
+        return told.widest(crowd.ups);
     }
 
     public int waves() {
-        return told.stretches(crowd.allUp());
+        return told.stretches(crowd.ups);
     }
 
     public int till(int seat, int times) {
@@ -270,7 +270,7 @@ public final class WaveRing {
         for (int tenth = 0; tenth < MEET_TENTHS; tenth++) {
             dream.dreamOn(told, told.dear);
         }
-        return told.stretches(dream.allUp());
+        return told.stretches(dream.ups);
     }
 
     public long odds(int m, int part) {
@@ -408,7 +408,7 @@ public final class WaveRing {
             case 2:
                 return crowd.asked;
             case 3:
-                return Long.bitCount(crowd.allUp());
+                return Long.bitCount(crowd.ups);
             case 4:
                 return films.count;
             case 5:
@@ -1063,6 +1063,9 @@ public final class WaveRing {
         private final int[] rises = new int[SEATS_MOST];
         private final int[] ways = new int[WAYS];
         private final int[] looks = new int[LOOKS];
+        // As bits, so that no tenth has to go through the states to see them.
+        private long ups;
+        private long firsts;
         private int tenths;
         private int asked;
         private int drawn = 1;
@@ -1076,6 +1079,8 @@ public final class WaveRing {
             for (int way = 0; way < WAYS; way++) {
                 ways[way] = 0;
             }
+            ups = 0;
+            firsts = 0;
             tenths = 0;
             asked = 0;
         }
@@ -1088,6 +1093,8 @@ public final class WaveRing {
             for (int way = 0; way < WAYS; way++) {
                 ways[way] = other.ways[way];
             }
+            ups = other.ups;
+            firsts = other.firsts;
             tenths = other.tenths;
             asked = other.asked;
             drawn = other.drawn;
@@ -1105,20 +1112,6 @@ public final class WaveRing {
             return way >= 0 && way < WAYS ? ways[way] : NONE;
         }
 
-        long allUp() {
-            return allBetween(UP_FIRST, RESTS - 1);
-        }
-
-        private long allBetween(int least, int most) {
-            long those = 0;
-            for (int seat = 0; seat < SEATS_MOST; seat++) {
-                if (states[seat] >= least && states[seat] <= most) {
-                    those |= 1L << seat;
-                }
-            }
-            return those;
-        }
-
         /** Those of who that sit are up at once; answers how many that are. */
         int raise(Ring ring, long who) {
             int raised = 0;
@@ -1126,6 +1119,8 @@ public final class WaveRing {
                 if (holds(who & ~ring.gaps, seat) && states[seat] == SITS) {
                     states[seat] = UP_FIRST;
                     rises[seat]++;
+                    ups |= 1L << seat;
+                    firsts |= 1L << seat;
                     raised++;
                 }
             }
@@ -1135,16 +1130,15 @@ public final class WaveRing {
 
         /** Who would rise in the tenth that begins if nobody were shy. */
         long willing(Ring ring, long dear) {
-            long firsts = allBetween(UP_FIRST, UP_FIRST);
             looks[SLACK] = ring.slackIn(tenths + 1);
             looks[ASKED] = asked;
-            looks[UPS] = Long.bitCount(allUp());
+            looks[UPS] = Long.bitCount(ups);
             looks[TENTH] = tenths + 1;
             long fixed = ring.gaps | dear;
             long those = 0;
             for (int seat = 0; seat < SEATS_MOST && seat < ring.seats; seat++) {
                 if (states[seat] == SITS && !holds(fixed, seat)) {
-                    lookAround(ring, firsts, seat);
+                    lookAround(ring, seat);
                     looks[ROSE] = rises[seat];
                     if (ring.law.worth(looks) != 0) {
                         those |= 1L << seat;
@@ -1154,7 +1148,7 @@ public final class WaveRing {
             return those;
         }
 
-        private void lookAround(Ring ring, long firsts, int seat) {
+        private void lookAround(Ring ring, int seat) {
             int sight = ring.sightOf(ring.sees);
             // Seen from its own place each seat is number 0, and the one on its left the last.
             long seen = ring.turned(firsts, ring.seats - seat);
@@ -1180,7 +1174,7 @@ public final class WaveRing {
         /** The tenths till nobody is up, or most if that is later. */
         int tillNobodyUp(Ring ring, long dear, int most) {
             int passed = 0;
-            while (passed < most && allUp() != 0) {
+            while (passed < most && ups != 0) {
                 dreamOn(ring, dear);
                 passed++;
             }
@@ -1206,10 +1200,9 @@ public final class WaveRing {
         }
 
         private void countWays(Ring ring, long rising) {
-            long firsts = allBetween(UP_FIRST, UP_FIRST);
             for (int seat = 0; seat < SEATS_MOST; seat++) {
                 if (holds(rising, seat)) {
-                    lookAround(ring, firsts, seat);
+                    lookAround(ring, seat);
                     countWay(wayOf(looks[LEFT], looks[RIGHT]));
                 }
             }
@@ -1229,21 +1222,22 @@ public final class WaveRing {
         }
 
         private void move(Ring ring, long rising) {
-            for (int seat = 0; seat < SEATS_MOST; seat++) {
+            ups = rising;
+            firsts = rising;
+            for (int seat = 0; seat < SEATS_MOST && seat < ring.seats; seat++) {
                 if (holds(rising, seat)) {
                     states[seat] = UP_FIRST;
                     rises[seat]++;
-                } else {
+                } else if (states[seat] != SITS) {
                     states[seat] = stateBehind(ring, states[seat]);
+                    ups |= states[seat] != SITS && states[seat] < RESTS ? 1L << seat : 0;
                 }
             }
             tenths++;
         }
 
+        /** The state a tenth later of one who is up or rests. */
         private static int stateBehind(Ring ring, int state) {
-            if (state == SITS) {
-                return SITS;
-            }
             if (state < RESTS) {
                 if (state < ring.up) {
                     return state + 1;
