@@ -214,6 +214,9 @@ public final class TenthTest {
         rising(six, "(5 and 7)=1", 6);
         rising(six, "(5<7)*3+(7<5)=3", 6);
         rising(six, "(5)=5", 6);
+        rising(six, "(7>5)*3=3", 6);
+        rising(six, "(5=5)*3=3", 6);
+        rising(six, "(not 0)*3=3", 6);
         rising(six, "1 or 0 and 0", 6);
         rising(six, "(1 or 0) and 0", 0);
         rising(six, "0 and 0 or 1", 6);

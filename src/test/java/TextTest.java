@@ -9,6 +9,7 @@ public final class TextTest {
         ringTakesTheTape();
         aFaultLetsAllStay();
         aNewRingIsFresh();
+        nothingOfOldRings();
         tokens();
         linesAndNumbers();
         placesOfFaults();
@@ -122,6 +123,24 @@ public final class TextTest {
             CHECK.due("box", x.back(i), -1);
         }
         CHECK.due("the first film again", x.film(3, 2L), 0);
+    }
+
+    /** Three times, as a ring that was told long ago might show through. */
+    private static void nothingOfOldRings() {
+        WaveRing x = new WaveRing();
+        String old = "slack 0 to 9 by 5; few 0 to 5; dear 6 to 7; gap 8 to 9; law up 9 rest 9 sees 9 shy 9 when not slack;";
+        Check.tell(x, old);
+        Check.tell(x, old);
+        Check.tell(x, "law up 1 rest 0 sees 1 shy 0 when 1-slack;");
+        CHECK.due("all rise", x.run(1), 24);
+        CHECK.due("no few", x.seat(0, 3), 0);
+        Check.tell(x, old);
+        Check.tell(x, old + "$");
+        CHECK.due("nothing is told", Check.tell(x, ""), 24);
+        CHECK.due("units", x.about(8), 2);
+        CHECK.due("nobody is dear", x.seat(6, 2), 0);
+        CHECK.due("no gap", x.seat(8, 2), 0);
+        CHECK.due("sees 2, up 2, rest 4", x.jumps(0, 1, 12), 1);
     }
 
     private static void tokens() {
