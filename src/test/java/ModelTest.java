@@ -3,9 +3,11 @@ import java.util.Random;
 
 /** Runs of calls by chance (always the same), each answer held against the document written a second time. */
 public final class ModelTest {
-    private static final int RUNS = 400;
-    private static final int CALLS = 160;
+    private static final int RUNS = 800;
+    // An object is good for 512 calls, and all seats of a ring take 131 at once.
+    private static final int CALLS = 512 - 131;
     private static final int TEXTS = 20000;
+    private static final int TEXTS_OF_ONE = 10;
     private static final int[] ODD = {-1, 0, 1, 2, 3, 5, 6, 9, 10, 12, 13, 24, 39, 40, 41, 100,
         Integer.MAX_VALUE, Integer.MIN_VALUE};
     private static int wrong = 0;
@@ -15,16 +17,18 @@ public final class ModelTest {
     private final WaveRing x = new WaveRing();
     private final Model y = new Model();
     private final StringBuilder told = new StringBuilder();
+    private int calls = 0;
 
     private ModelTest(int seed) {
         random = new Random(seed);
     }
 
     public static void main(String[] args) {
-        ModelTest texts = new ModelTest(7);
-        for (int i = 0; i < TEXTS; i++) {
-            texts.told.setLength(0);
-            texts.text(true);
+        for (int i = 0; i < TEXTS / TEXTS_OF_ONE; i++) {
+            ModelTest texts = new ModelTest(700000 + i);
+            for (int j = 0; j < TEXTS_OF_ONE; j++) {
+                texts.text(true);
+            }
         }
         for (int run = 0; run < RUNS; run++) {
             new ModelTest(1000 + run).calls();
@@ -37,6 +41,7 @@ public final class ModelTest {
 
     private void same(String call, long got, long want) {
         asked++;
+        calls++;
         told.append(call).append(" -> ").append(want).append('\n');
         if (got != want) {
             wrong++;
@@ -49,7 +54,7 @@ public final class ModelTest {
     private void calls() {
         text(false);
         same("tryNow()", x.tryNow(), y.tryNow());
-        for (int i = 0; i < CALLS; i++) {
+        while (calls < CALLS) {
             call();
         }
     }
@@ -81,7 +86,7 @@ public final class ModelTest {
     }
 
     private void liveCall(int kind) {
-        int a = some(x.about(0));
+        int a = some(y.about(0));
         int b = some(4);
         switch (kind) {
             case 0, 1 -> same("tryNow()", x.tryNow(), y.tryNow());
@@ -116,7 +121,7 @@ public final class ModelTest {
     }
 
     private void everySeat() {
-        for (int seat = 0; seat < x.about(0); seat++) {
+        for (int seat = 0; seat < y.about(0); seat++) {
             same("seat(" + seat + ", 0)", x.seat(seat, 0), y.seat(seat, 0));
             same("seat(" + seat + ", 1)", x.seat(seat, 1), y.seat(seat, 1));
             int what = some(5);
@@ -128,8 +133,8 @@ public final class ModelTest {
     }
 
     private void comingCall(int kind) {
-        int a = some(x.about(0));
-        int b = some(x.about(0));
+        int a = some(y.about(0));
+        int b = some(y.about(0));
         int n = chance(70) ? 1 + pick(5) : some(14);
         switch (kind) {
             case 0 -> same("till(" + a + ", " + n + ")", x.till(a, n), y.till(a, n));
@@ -146,12 +151,12 @@ public final class ModelTest {
     }
 
     private void filmCall(int kind) {
-        int k = x.about(5) - pick(4) + 1;
-        int a = some(x.about(0));
+        int k = y.about(5) - pick(4) + 1;
+        int a = some(y.about(0));
         switch (kind) {
             case 0, 1 -> tellFilm();
             case 2 -> {
-                int film = some(x.about(4) + 1);
+                int film = some(y.about(4) + 1);
                 same("untell(" + film + ")", x.untell(film) ? 1 : 0, y.untell(film) ? 1 : 0);
             }
             case 3 -> {
@@ -178,14 +183,14 @@ public final class ModelTest {
     /** Often what the ring shows now, so that some laws fit. */
     private void tellFilm() {
         long ups = 0;
-        for (int seat = 0; seat < x.about(0); seat++) {
-            int state = x.seat(seat, 0);
+        for (int seat = 0; seat < y.about(0); seat++) {
+            int state = y.seat(seat, 0);
             ups |= state > 0 && state < 10 ? 1L << seat : 0;
         }
         if (chance(20)) {
-            ups ^= 1L << some(x.about(0));
+            ups ^= 1L << some(y.about(0));
         }
-        int moment = chance(80) ? Math.min(39, x.about(1)) : some(40);
+        int moment = chance(80) ? Math.min(39, y.about(1)) : some(40);
         same("film(" + moment + ", " + ups + ")", x.film(moment, ups), y.film(moment, ups));
     }
 

@@ -4,6 +4,7 @@ import java.lang.reflect.Constructor;
 import java.lang.reflect.Field;
 import java.lang.reflect.Method;
 import java.lang.reflect.Modifier;
+import java.nio.file.DirectoryStream;
 import java.nio.file.Files;
 import java.nio.file.Path;
 import java.util.Set;
@@ -30,7 +31,26 @@ public final class RulesTest {
         source(Files.readString(Path.of("src/main/java/WaveRing.java")));
         nestedClasses();
         room();
+        promises(Files.readString(Path.of("../shared/DOC.md")));
         CHECK.finish();
+    }
+
+    /** Each promise of the document has a class of tests that bears its number. */
+    private static void promises(String document) throws IOException {
+        Set<String> tested = new TreeSet<>();
+        try (DirectoryStream<Path> files = Files.newDirectoryStream(Path.of("src/test/java"), "Promise*Test.java")) {
+            for (Path file : files) {
+                tested.add(file.getFileName().toString().substring(7, 9));
+            }
+        }
+        Matcher promise = Pattern.compile("(?m)^## Promise (\\d+): ").matcher(document);
+        int found = 0;
+        while (promise.find()) {
+            found++;
+            String number = promise.group(1).length() == 1 ? "0" + promise.group(1) : promise.group(1);
+            CHECK.due("promise " + number + " has tests", tested.contains(number), true);
+        }
+        CHECK.due("promises", found, 31);
     }
 
     private static void face() {
