@@ -61,6 +61,9 @@ public final class Promise04RingTest {
 
     static void aNewRingIsFresh(Check check) {
         WaveRing x = used(check);
+        x.tryNow();
+        x.run(1);
+        check.due("somebody is up", x.about(3) > 0, true);
         check.due("the same text", Check.tell(x, FULL), 8);
         check.due("states", Check.states(x), "0 0 0 0 0 0 40 0");
         check.due("rose", Check.answers(x, 1), "0 0 0 0 0 0 0 0");
@@ -126,7 +129,7 @@ public final class Promise04RingTest {
         String old = "slack 0 to 9 by 5; few 0 to 5; dear 6 to 7; gap 8 to 9; law up 9 rest 9 sees 9 shy 9 when not slack;";
         Check.tell(x, old);
         Check.tell(x, old);
-        Check.tell(x, "law up 1 rest 0 sees 1 shy 0 when 1-slack;");
+        Check.tell(x, "law up 1 rest 0 sees 1 shy 0 when slack=0;");
         check.due("all rise", x.run(1), 24);
         check.due("nobody is few", x.seat(0, 3), 0);
         Check.tell(x, old);
@@ -136,5 +139,11 @@ public final class Promise04RingTest {
         check.due("nobody is dear", x.seat(6, 2), 0);
         check.due("no gap", x.seat(8, 2), 0);
         check.due("sees 2", x.jumps(0, 1, 12), 1);
+        Check.tell(x, old);
+        Check.tell(x, old);
+        Check.tell(x, "few 0 to 0;");
+        x.tryNow();
+        check.due("two rise", x.run(1), 2);
+        check.due("nobody is shy", x.about(7), 1);
     }
 }

@@ -48,6 +48,8 @@ public final class Promise13TillTest {
         for (int times = 1; times <= 9; times++) {
             check.due("till(2, " + times + ")", x.till(2, times), 2 * times - 1);
         }
+        x = check.tried("seats 10; few 0 to 0; " + ROUND);
+        check.due("till(5, 0): it does not rise in the next tenth", x.till(5, 0), -1);
     }
 
     static void noneIfThereIsNoSuchSeat(Check check) {

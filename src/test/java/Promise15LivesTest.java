@@ -89,6 +89,16 @@ public final class Promise15LivesTest {
         check.due("in four tenths four rise, and the last is up for two", x.lives(0, 1), 6);
     }
 
+    static void nothingOfAnotherLifeShows(Check check) {
+        WaveRing x = check.made("seats 10; gap 9 to 9; law up 1 rest 0 sees 2 shy 0 when left>0 and (ups=1 or tenth>1);");
+        for (int i = 0; i < 3; i++) {
+            check.due("for ever", x.lives(0, 1), 200);
+            check.due("then from a gap", x.lives(9, 1), 0);
+            check.due("for ever", x.lives(5, 1), 200);
+            check.due("for ever once more", x.lives(0, 1), 200);
+        }
+    }
+
     static void slackIsOfTheTenthsFrom1On(Check check) {
         WaveRing x = check.made("seats 7; slack 1 to 4 by 2; slack 3 to 20 by 1; law up 1 rest 0 sees 1 shy 0 when left>0 and slack;");
         check.due("twenty rise", x.lives(0, 1), 21);

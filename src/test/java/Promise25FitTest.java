@@ -29,6 +29,18 @@ public final class Promise25FitTest {
         check.due("none fits", x.fit(0, 0), -1);
     }
 
+    static void noneBehindTheLastThatSeesBothSides(Check check) {
+        WaveRing x = check.made("seats 6;");
+        x.film(0, 1L);
+        x.film(1, 34L);
+        int first = PlainLaw.number(2, 1, 1, 1, 0);
+        for (int i = 0; i < 4; i++) {
+            check.due("fit(" + i + ", 0)", x.fit(i, 0), first + i);
+        }
+        check.due("fit(4, 0)", x.fit(4, 0), -1);
+        check.due("fit(5, 0)", x.fit(5, 0), -1);
+    }
+
     static void theLastLawIs323(Check check) {
         WaveRing x = check.made("seats 12;");
         int law = PlainLaw.number(2, 3, 3, 3, 3);

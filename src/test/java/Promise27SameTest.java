@@ -52,6 +52,33 @@ public final class Promise27SameTest {
         check.due("but up counts", x.same(PlainLaw.number(0, 1, 3, 1, 1), PlainLaw.number(0, 1, 3, 2, 1)), 0);
     }
 
+    /** On six seats a wave from n is back behind 7 - n tenths: who then still is up or rests ends it. */
+    static void startsOf1And2And3Count(Check check) {
+        WaveRing x = check.made("seats 6;");
+        for (int up = 1; up <= 3; up++) {
+            for (int a = 0; a <= 3; a++) {
+                for (int b = 0; b <= 3; b++) {
+                    int due = endsBy(up + a) == endsBy(up + b) ? 1 : 0;
+                    check.due("up " + up + ", rest " + a + " and " + b,
+                        x.same(PlainLaw.number(0, 1, 1, up, a), PlainLaw.number(0, 1, 1, up, b)), due);
+                }
+            }
+        }
+        check.due("told apart by starts of 3 alone", endsBy(3) * 10 + endsBy(4), 43);
+        check.due("by those of 2 as well", endsBy(4) * 10 + endsBy(5), 32);
+        check.due("by those of 1 alone", endsBy(5) * 10 + endsBy(6), 21);
+    }
+
+    /** From how many on, of 1 to 3, a wave ends by so many tenths up and at rest; 4: by none. */
+    private static int endsBy(int tenths) {
+        for (int n = 1; n <= 3; n++) {
+            if (tenths > 6 - n) {
+                return n;
+            }
+        }
+        return 4;
+    }
+
     /** Three side by side are needed to tell these apart, and no fewer. */
     static void startsOf3Count(Check check) {
         WaveRing x = check.made("seats 9;");
