@@ -225,7 +225,8 @@ public final class Promise07RunTest {
         int[] due = {0, 0, 7, 7, 7, 0, 0};
         for (int tenth = 1; tenth <= due.length; tenth++) {
             WaveRing x = check.made(ahead + "law up 1 rest 0 sees 1 shy 0 when slack=7;");
-            WaveRing y = check.made(ahead + "law up 1 rest 0 sees 1 shy 0 when tenth=" + tenth + " and slack=" + due[tenth - 1] + ";");
+            WaveRing y = check.made(ahead + "law up 1 rest 0 sees 1 shy 0 when tenth=" + tenth
+                + " and slack=" + due[tenth - 1] + ";");
             check.due("tenth " + tenth, y.run(tenth), 6);
             check.due("in two tenths", x.run(7), 12);
         }

@@ -100,7 +100,8 @@ public final class Promise15LivesTest {
     }
 
     static void slackIsOfTheTenthsFrom1On(Check check) {
-        WaveRing x = check.made("seats 7; slack 1 to 4 by 2; slack 3 to 20 by 1; law up 1 rest 0 sees 1 shy 0 when left>0 and slack;");
+        WaveRing x = check.made("seats 7; slack 1 to 4 by 2; slack 3 to 20 by 1; "
+            + "law up 1 rest 0 sees 1 shy 0 when left>0 and slack;");
         check.due("twenty rise", x.lives(0, 1), 21);
         x.run(9);
         check.due("now, too", x.lives(0, 1), 21);

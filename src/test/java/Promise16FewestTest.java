@@ -30,9 +30,10 @@ public final class Promise16FewestTest {
     static void notMoreThanThereAreSeats(Check check) {
         for (int seats = 7; seats <= 12; seats++) {
             int but = seats - 1;
-            WaveRing x = check.made("seats " + seats + "; law up 1 rest 0 sees 1 shy 0 when ups=" + but + " or ups=1 and tenth>1;");
+            String ahead = "seats " + seats + "; law up 1 rest 0 sees 1 shy 0 when ";
+            WaveRing x = check.made(ahead + "ups=" + but + " or ups=1 and tenth>1;");
             check.due("all but one of " + seats, x.fewest(3), but);
-            x = check.made("seats " + seats + "; law up 1 rest 0 sees 1 shy 0 when ups=" + seats + " or tenth>1 and ups;");
+            x = check.made(ahead + "ups=" + seats + " or tenth>1 and ups;");
             check.due("with all of " + seats + " there is nobody who sits", x.fewest(3), -1);
         }
     }

@@ -96,8 +96,9 @@ public final class Promise27SameTest {
         int law = PlainLaw.number(2, 2, 3, 1, 0);
         int never = PlainLaw.number(0, 1, 3, 1, 0);
         check.due("by starts of 1, 2, 3", x.same(law, never), 1);
-        boolean told = Arrays.equals(PlainLaw.shown(law, "............", 27L, 60), PlainLaw.shown(never, "............", 27L, 60));
-        check.due("though 0, 1, 3, 4 would tell them apart", told, false);
+        String row = "............";
+        boolean alike = Arrays.equals(PlainLaw.shown(law, row, 27L, 60), PlainLaw.shown(never, row, 27L, 60));
+        check.due("though 0, 1, 3, 4 would tell them apart", alike, false);
     }
 
     static void eachStartCountsRound(Check check) {
