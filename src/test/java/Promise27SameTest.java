@@ -90,7 +90,7 @@ public final class Promise27SameTest {
         check.due("on three seats never", x.same(PlainLaw.number(0, 3, 3, 1, 0), PlainLaw.number(0, 1, 3, 1, 0)), 1);
     }
 
-    static void startsOf4DoNotCount(Check check) {
+    static void startsThatAreNotSideBySideDoNotCount(Check check) {
         // Need 3 of two on each side: by starts of 3, the seats on both ends see two on one side, and nobody three.
         WaveRing x = check.made("seats 12;");
         int law = PlainLaw.number(2, 2, 3, 1, 0);
