@@ -923,7 +923,15 @@ public final class WaveRing {
             }
             into.law.units++;
             step();
-            return readEither(depth + 1) && takeSign(')');
+            if (!readEither(depth + 1)) {
+                return false;
+            }
+            // Not by takeSign: from here it would make the calls nine deep.
+            if (!isSign(')')) {
+                return refuse();
+            }
+            step();
+            return true;
         }
 
         private int lookHere() {
